@@ -626,7 +626,7 @@ public final class BorrowedStones {
             }
         }
 
-        /** The first n bytes are to be read; the TAPE counts as empty at once, its row keeps them till the next feed. */
+        /** The first n bytes are to be read; the TAPE is empty at once, but its row keeps them till the next feed. */
         void begin(int n) {
             end = n;
             bytes = 0;
@@ -707,7 +707,7 @@ public final class BorrowedStones {
             return value;
         }
 
-        /** Goes behind the next word, which isWord() then knows. */
+        /** Goes behind the next word, which isWord() then knows; who finds it unknown, or none, blames wordStart. */
         void word() {
             if (fault != 0) {
                 return;
@@ -716,9 +716,6 @@ public final class BorrowedStones {
             wordStart = place;
             while (place < end && isLetter(Rows.at(tape, place))) {
                 place++;
-            }
-            if (place == wordStart) {
-                blame(WRONG_PLACE, place);
             }
         }
 
