@@ -8,7 +8,8 @@ import java.util.Random;
 /** Many runs of calls, drawn by fixed seeds, on the program and on the Model: all answers and refusals are alike. */
 public final class FuzzTest {
     private static final int RUNS = 4000;
-    private static final int CALLS = 400;
+    // What is begun then may go on for some 150 more; an object is used for 512 at most.
+    private static final int CALLS = 340;
 
     private final Random r;
     private final BorrowedStones program = new BorrowedStones();

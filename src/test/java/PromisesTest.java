@@ -1,123 +1,7 @@
-import java.nio.ByteBuffer;
-import java.nio.charset.StandardCharsets;
 import java.util.Arrays;
-import java.util.NoSuchElementException;
 
 /** Each promise of the document by calls whose answers were worked out by hand from its words. */
-public final class PromisesTest {
-    private static final String THREE = "person 5 10;person 5 20;person 5 30;";
-    private static final String FOUR = "person 9 5;person 4 10;person 2 0;person 7 20;friend 0 1;friend 2 3;most 1;";
-
-    private static int wrong;
-    private static int promise;
-
-    private interface Call {
-        Object made();
-    }
-
-    private static void due(String what, long got, long want) {
-        if (got != want) {
-            wrong++;
-            System.out.println("promise " + promise + ": " + what + " answered " + got + ", due is " + want);
-        }
-    }
-
-    private static void refused(String what, Class<?> by, Call call) {
-        try {
-            Object got = call.made();
-            wrong++;
-            System.out.println("promise " + promise + ": " + what + " answered " + got + ", due is " + by.getSimpleName());
-        } catch (RuntimeException e) {
-            if (e.getClass() != by) {
-                wrong++;
-                System.out.println("promise " + promise + ": " + what + " threw " + e + ", due is " + by.getSimpleName());
-            }
-        }
-    }
-
-    private static void illegal(String what, Call call) {
-        refused(what, IllegalArgumentException.class, call);
-    }
-
-    private static void nobody(String what, Call call) {
-        refused(what, NoSuchElementException.class, call);
-    }
-
-    private static int fed(BorrowedStones x, String text) {
-        byte[] all = Arrays.copyOf(text.getBytes(StandardCharsets.ISO_8859_1), (text.length() + 19) / 20 * 20);
-        for (int i = 0; i < all.length; i += 20) {
-            ByteBuffer b = ByteBuffer.wrap(all, i, 20);
-            x.feed(b.getInt(), b.getInt(), b.getInt(), b.getInt(), b.getInt());
-        }
-        return text.length();
-    }
-
-    private static int peninsula(BorrowedStones x, String text) {
-        return x.peninsula(fed(x, text));
-    }
-
-    private static int law(BorrowedStones x, String text) {
-        return x.law(fed(x, text));
-    }
-
-    private static int work(BorrowedStones x, String text) {
-        return x.work(fed(x, text));
-    }
-
-    private static int book(BorrowedStones x, String text) {
-        return x.book(fed(x, text));
-    }
-
-    private static BorrowedStones on(String text) {
-        BorrowedStones x = new BorrowedStones();
-        peninsula(x, text);
-        return x;
-    }
-
-    private static BorrowedStones on(String text, String law) {
-        BorrowedStones x = on(text);
-        due("law " + law, law(x, law), 1);
-        return x;
-    }
-
-    /** What a LAW makes of kind 7, DEBTS 20, 3 STONES, friend, owed 30, 4 dead, YEAR 50, number 6. */
-    private static int value(String law) {
-        BorrowedStones x = new BorrowedStones();
-        due("law " + law, law(x, law), 1);
-        return x.would(7, 20, 3, 1, 30, 4, 50, 6);
-    }
-
-    private static void peninsulaFault(String text, int fault, int place) {
-        BorrowedStones x = on(THREE);
-        due(text, peninsula(x, text), fault - 10);
-        due("place in " + text, x.fault(), place);
-        due("persons behind " + text, x.told(0), 3);
-        due("tape behind " + text, x.count(1), 0);
-    }
-
-    private static void lawFault(String text, int fault, int place) {
-        BorrowedStones x = on(THREE, "42");
-        due(text, law(x, text), fault - 10);
-        due("place in " + text, x.fault(), place);
-        due("will behind " + text, x.will(0, 1), 42);
-    }
-
-    private static void workFault(String text, int fault, int place) {
-        BorrowedStones x = on(THREE);
-        due(text, work(x, text), fault - 10);
-        due("place in " + text, x.fault(), place);
-        due("works behind " + text, x.count(2), 0);
-        due("living behind " + text, x.told(1), 7);
-    }
-
-    private static void bookFault(String text, int fault, int place) {
-        BorrowedStones x = on(THREE);
-        book(x, "1 2;2 0;");
-        due(text, book(x, text), fault - 10);
-        due("place in " + text, x.fault(), place);
-        due("lines behind " + text, x.told(9), 2);
-    }
-
+public final class PromisesTest extends Check {
     public static void main(String[] args) {
         newObject();
         tape();
@@ -145,14 +29,11 @@ public final class PromisesTest {
         centuries();
         images();
         refusals();
-        System.out.println(wrong == 0 ? "all promises are kept" : wrong + " answers are not as due");
-        if (wrong != 0) {
-            System.exit(1);
-        }
+        end("all promises are kept");
     }
 
     private static void newObject() {
-        promise = 1;
+        promise(1);
         BorrowedStones x = new BorrowedStones();
         due("NONE", BorrowedStones.NONE, -1);
         for (int what = 0; what <= 11; what++) {
@@ -167,7 +48,7 @@ public final class PromisesTest {
     }
 
     private static void tape() {
-        promise = 2;
+        promise(2);
         BorrowedStones x = new BorrowedStones();
         // "most 4;" and blanks; then the highest byte first makes the order of the letters.
         due("feed", x.feed(0x6d6f7374, 0x20343b20, 0x20202020, 0x20202020, 0x20202020), 20);
@@ -185,7 +66,7 @@ public final class PromisesTest {
     }
 
     private static void peninsulas() {
-        promise = 3;
+        promise(3);
         BorrowedStones x = on("  person   9 0060 ;person 0 0;most 1;  friend 1 0;friend 0 1;most 2 ; ");
         due("persons", x.told(0), 2);
         due("kind", x.person(0, 0), 9);
@@ -260,7 +141,7 @@ public final class PromisesTest {
     }
 
     private static void laws() {
-        promise = 4;
+        promise(4);
         due("product first", value("2+3*4"), 14);
         due("from the left", value("20-5-3"), 12);
         due("from the left", value("40/4*2"), 20);
@@ -338,7 +219,7 @@ public final class PromisesTest {
     }
 
     private static void works() {
-        promise = 5;
+        promise(5);
         BorrowedStones x = on(THREE);
         due("steps", work(x, "die 2;year; die2 ;pay 0 7;owe 1 60;lend 0 2;"), 4);
         due("refused", x.told(10), 2);
@@ -468,7 +349,7 @@ public final class PromisesTest {
     }
 
     private static void books() {
-        promise = 6;
+        promise(6);
         BorrowedStones x = on(THREE);
         due("lines", book(x, " 2 0; 0 0008 ;"), 2);
         due("told", x.told(9), 2);
@@ -487,7 +368,7 @@ public final class PromisesTest {
         bookFault("0;", 1, 1);
         bookFault("a 1;", 1, 0);
         bookFault("0 1;;", 1, 4);
-        promise = 7;
+        promise(7);
         due("fault", book(x, "0 1;  x"), -9);
         due("place", x.fault(), 6);
         illegal("refused", () -> x.book(1));
@@ -497,7 +378,7 @@ public final class PromisesTest {
     }
 
     private static void undone() {
-        promise = 8;
+        promise(8);
         BorrowedStones x = on(THREE);
         due("nothing", x.undo(), -1);
         work(x, "die 0;die 0;");
@@ -522,7 +403,7 @@ public final class PromisesTest {
     }
 
     private static void tolds() {
-        promise = 9;
+        promise(9);
         BorrowedStones x = on(THREE);
         due("lenders", x.told(7), 3);
         work(x, "die 2;year;");
@@ -550,7 +431,7 @@ public final class PromisesTest {
     }
 
     private static void persons() {
-        promise = 10;
+        promise(10);
         BorrowedStones x = on(FOUR);
         due("friends", x.person(3, 6), 4);
         due("friends", x.person(0, 6), 2);
@@ -571,7 +452,7 @@ public final class PromisesTest {
 
     private static void wills() {
         BorrowedStones x = on(FOUR);
-        promise = 11;
+        promise(11);
         due("will", x.will(0, 1), 36);
         due("will", x.will(1, 2), 12);
         due("will to itself", x.will(0, 0), 27);
@@ -584,7 +465,7 @@ public final class PromisesTest {
         due("facts", x.will(1, 0), 10 + 2 + 3 + 16);
         nobody("4", () -> x.will(4, 0));
         nobody("-1", () -> x.will(0, -1));
-        promise = 12;
+        promise(12);
         BorrowedStones y = on("person 1 9;person 1 10;person 1 11;most 1;", "debts");
         due("lends", y.lends(1, 2) ? 1 : 0, 1);
         due("lends below 10", y.lends(0, 1) ? 1 : 0, 0);
@@ -595,7 +476,7 @@ public final class PromisesTest {
         due("as many as it may bear", y.lends(2, 0) ? 1 : 0, 0);
         nobody("3", () -> y.lends(3, 0));
         nobody("3", () -> y.lends(0, 3));
-        promise = 13;
+        promise(13);
         due("would", y.would(0, 12, 0, 0, 0, 0, 0, 0), 12);
         due("at the ends", y.would(9, 999, 8, 1, 999, 8, 900, 7), 99);
         int[] ends = {9, 999, 8, 1, 999, 8, 900, 7};
@@ -609,7 +490,7 @@ public final class PromisesTest {
     }
 
     private static void lenders() {
-        promise = 14;
+        promise(14);
         BorrowedStones x = on(FOUR);
         due("lender", x.lender(0), 1);
         due("lender", x.lender(1), 0);
@@ -628,7 +509,7 @@ public final class PromisesTest {
     }
 
     private static void ahead() {
-        promise = 15;
+        promise(15);
         BorrowedStones x = on(THREE);
         work(x, "die 2;");
         due("debts", x.ahead(0, 0), 60);
@@ -664,11 +545,11 @@ public final class PromisesTest {
         BorrowedStones x = on("person 5 0;person 5 0;person 5 0;person 5 0;", "20-person");
         work(x, "die 3;die 0;die 1;");
         // 3 under 0, 0 under 1, 1 under 2, who lives.
-        promise = 16;
+        promise(16);
         due("truly", x.truly(3), 2);
         due("truly", x.truly(1), 2);
         due("who lives", x.truly(2), -1);
-        promise = 17;
+        promise(17);
         due("chain", x.chain(3), 3);
         due("chain", x.chain(0), 2);
         due("chain", x.chain(1), 1);
@@ -677,11 +558,11 @@ public final class PromisesTest {
         due("none counts nothing", x.chain(3), 3);
         due("who lies under none", x.chain(2), 0);
         nobody("chain", () -> x.chain(4));
-        promise = 16;
+        promise(16);
         due("none in the end", x.truly(3), -1);
         due("none", x.truly(2), -1);
         nobody("truly", () -> x.truly(-1));
-        promise = 31;
+        promise(31);
         due("below", x.below(2), 11);
         due("below", x.below(1), 9);
         due("below", x.below(0), 8);
@@ -691,7 +572,7 @@ public final class PromisesTest {
 
     private static void served() {
         BorrowedStones x = on(FOUR);
-        promise = 18;
+        promise(18);
         // To 2 and 3: by 0 27 each, by 1 12 each; each has one NAME to lend: 39 either way.
         due("how many", x.served(12, 0), 2);
         due("wills", x.served(12, 1), 39);
@@ -704,7 +585,7 @@ public final class PromisesTest {
         illegal("no person", () -> x.served(-1, 0));
         illegal("what", () -> x.served(3, 2));
         illegal("what", () -> x.served(3, -1));
-        promise = 19;
+        promise(19);
         due("of alike ways the first", x.giver(2, 12), 0);
         due("of alike ways the first", x.giver(3, 12), 1);
         due("the most willing", x.giver(1, 14), 0);
@@ -720,7 +601,7 @@ public final class PromisesTest {
         due("left by the stones", x.giver(2, 4), 3);
         nobody("ahead of others", () -> x.giver(4, 16));
         illegal("no person", () -> x.giver(0, 16));
-        promise = 18;
+        promise(18);
         due("left by the stones", x.served(12, 0), 0);
         due("who is dead left out", x.served(6, 1), 30);
         BorrowedStones y = on("person 9 0;person 9 0;person 9 0;most 1;");
@@ -732,7 +613,7 @@ public final class PromisesTest {
     }
 
     private static void orders() {
-        promise = 20;
+        promise(20);
         BorrowedStones x = on("person 4 0;person 3 0;person 4 0;most 1;");
         // 12, 9, 12: 0 first has 2, then 1 has none that is free: 2 is full. 1 first has 0, then 0 has 2.
         due("fewest", x.order(3, 0), 0);
@@ -758,7 +639,7 @@ public final class PromisesTest {
 
     private static void fits() {
         BorrowedStones x = on("person 9 0;person 8 0;person 7 0;most 3;");
-        promise = 21;
+        promise(21);
         // 0 has 1 (24); 1 has 0 (27); who dies second of them has 2, or none that is better.
         due("all without lines", x.fits(7, 0), 6);
         due("the first", x.fits(7, 1), 0 + 8 * (1 + 8 * 2));
@@ -774,7 +655,7 @@ public final class PromisesTest {
         due("the empty order", x.fits(0, 1), 0);
         illegal("no person", () -> x.fits(8, 0));
         illegal("what", () -> x.fits(1, 2));
-        promise = 22;
+        promise(22);
         book(x, "0 1;1 1;2 0;");
         due("all in lines", x.look(7, 0), -1);
         due("all in lines", x.look(7, 1), -1);
@@ -812,7 +693,7 @@ public final class PromisesTest {
     }
 
     private static void neighbours() {
-        promise = 23;
+        promise(23);
         BorrowedStones x = new BorrowedStones();
         due("rests", x.neighbours(5, 3, 0), 2);
         due("the first", x.neighbours(5, 3, 1), 0);
@@ -826,7 +707,7 @@ public final class PromisesTest {
     }
 
     private static void homes() {
-        promise = 24;
+        promise(24);
         BorrowedStones x = new BorrowedStones();
         // Two names, each by half: one or more are left out of three ways of four.
         long[][] all = {{2, 1, 8, 3, 4}, {2, 2, 8, 1, 4}, {2, 0, 8, 1, 1}, {0, 0, 0, 1, 1}, {0, 1, 5, 0, 1},
@@ -844,7 +725,7 @@ public final class PromisesTest {
     }
 
     private static void flowers() {
-        promise = 25;
+        promise(25);
         BorrowedStones x = on("person 9 0;person 9 0;person 1 0;person 1 0;person 1 0;person 1 0;most 4;", "30-person*20");
         work(x, "die 2;die 3;die 4;");
         law(x, "person*10");
@@ -872,7 +753,7 @@ public final class PromisesTest {
 
     private static void tops() {
         BorrowedStones x = on(THREE);
-        promise = 26;
+        promise(26);
         due("nobody", x.honoured(0), -1);
         due("nobody", x.honoured(1), -1);
         work(x, "die 0;die 1;");
@@ -885,7 +766,7 @@ public final class PromisesTest {
         due("most stones", y.honoured(1), 2);
         illegal("what", () -> x.honoured(2));
         illegal("what", () -> x.honoured(-1));
-        promise = 27;
+        promise(27);
         due("who owes", x.sued(0), 2);
         due("how much", x.sued(1), 60);
         work(x, "die 2;");
@@ -896,40 +777,40 @@ public final class PromisesTest {
         due("owes one", on("person 1 0;person 1 1;").sued(1), 1);
         due("of alike ones the first", on("person 1 0;person 1 7;person 1 7;").sued(0), 1);
         illegal("what", () -> x.sued(-1));
-        promise = 32;
+        promise(32);
         due("debtless", x.debtless(), 7);
         due("debtless", on("person 1 0;person 1 7;person 1 0;").debtless(), 5);
     }
 
     private static void sets() {
         BorrowedStones x = on("person 9 0;person 4 0;person 0 0;person 0 0;person 0 0;friend 0 1;friend 1 2;friend 0 3;most 1;");
-        promise = 28;
+        promise(28);
         due("free", x.free(0), 10);
-        promise = 29;
+        promise(29);
         due("kin", x.kin(3), 15);
         due("kin", x.kin(4), 16);
-        promise = 30;
+        promise(30);
         due("willing", x.willing(0), 2);
         due("willing", x.willing(4), 3);
         work(x, "die 3;");
         // 3 lies under 0, who bears all that it may.
         due("to the dead", x.willing(3), 2);
         due("full", x.willing(4), 2);
-        promise = 28;
+        promise(28);
         due("who lives", x.free(0), 2);
         due("who has room", x.free(1), 4);
         due("of the dead", x.free(3), 0);
-        promise = 29;
+        promise(29);
         due("dead, too", x.kin(0), 15);
         nobody("kin", () -> x.kin(5));
-        promise = 28;
+        promise(28);
         nobody("free", () -> x.free(-1));
-        promise = 30;
+        promise(30);
         nobody("willing", () -> x.willing(5));
     }
 
     private static void afters() {
-        promise = 33;
+        promise(33);
         BorrowedStones x = on(THREE);
         due("stones", x.after(2, 0), 1);
         due("debts", x.after(2, 1), 40);
@@ -948,7 +829,7 @@ public final class PromisesTest {
     }
 
     private static void latest() {
-        promise = 34;
+        promise(34);
         BorrowedStones x = on(THREE);
         due("all live", x.latest(0), -1);
         due("all live", x.latest(1), -1);
@@ -966,7 +847,7 @@ public final class PromisesTest {
     }
 
     private static void centuries() {
-        promise = 35;
+        promise(35);
         BorrowedStones x = on("person 5 1;person 5 2;person 5 3;");
         // SEED 1: 1103527590 by 65536 is 16838; 16838 by 16 leaves 6; then 5758, 10113, 17515, by 3: 1, 0, 1.
         due("below q", x.century(1, 1, 7, 0), 5);
@@ -988,7 +869,7 @@ public final class PromisesTest {
             illegal("century", () -> x.century(1, w[0], w[1], w[2]));
         }
         due("no persons", new BorrowedStones().century(1, 96, 16, 2), 0);
-        promise = 36;
+        promise(36);
         law(x, "15");
         due("fewest", x.span(1, 20, 96, 16, 0, 0), 1);
         due("most", x.span(1, 20, 96, 16, 1, 0), 1);
@@ -1020,10 +901,10 @@ public final class PromisesTest {
 
     private static void images() {
         BorrowedStones x = on(THREE);
-        promise = 38;
+        promise(38);
         due("none", x.restore(), -1);
         work(x, "die 0;");
-        promise = 37;
+        promise(37);
         due("first", x.image(), 1);
         work(x, "year;die 0;");
         due("second", x.image(), 2);
@@ -1036,7 +917,7 @@ public final class PromisesTest {
         due("works", x.count(2), 0);
         law(x, "77");
         book(x, "0 0;");
-        promise = 38;
+        promise(38);
         work(x, "year;year;year;year;die 1;die 1;");
         due("left", x.restore(), 2);
         due("refused", x.told(10), 0);
@@ -1056,35 +937,10 @@ public final class PromisesTest {
         due("works", x.count(2), 1);
         due("none", x.restore(), -1);
         due("living", x.told(1), 6);
-        fullImages();
-    }
-
-    private static void fullImages() {
-        BorrowedStones x = on(THREE);
-        for (int p = 0; p < 3; p++) {
-            for (int i = 0; i < 16; i++) {
-                work(x, "owe " + p + " 1;");
-            }
-            due("image", x.image(), p + 1);
-            while (x.count(2) > 0) {
-                x.undo();
-            }
-        }
-        due("debts", x.told(5), 60);
-        for (int p = 2; p >= 0; p--) {
-            due("left", x.restore(), p);
-            due("works", x.count(2), 16);
-            due("debts by the image", x.person(p, 1), 10 * (p + 1) + 16);
-            for (int works = 15; works >= 0; works--) {
-                due("works", x.undo(), works);
-                due("debts by the image's works", x.person(p, 1), 10 * (p + 1) + works);
-            }
-            due("debts", x.told(5), 60);
-        }
     }
 
     private static void refusals() {
-        promise = 39;
+        promise(39);
         BorrowedStones x = on(THREE);
         due("none", x.status(0), 0);
         x.image();
@@ -1105,7 +961,7 @@ public final class PromisesTest {
         due("wrongs", x.status(1), 3);
         due("others", x.status(2), -1);
         due("others", x.status(-1), -1);
-        promise = 40;
+        promise(40);
         peninsula(x, THREE);
         work(x, "");
         work(x, "");
