@@ -796,6 +796,7 @@ public final class WorkBoundariesTest extends Check {
             for (int works = 15; works >= 0; works--) {
                 due("undone", x.undo(), works);
                 due("DEBTS of the IMAGE's WORKS", x.person(p, 1), 10 * (p + 1) + works);
+                due("the YEAR", x.told(3), 0);
             }
             due("DEBTS of all", x.told(5), 60);
         }
