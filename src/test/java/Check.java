@@ -30,8 +30,12 @@ class Check {
 
     // ---- what is due
 
+    static void part(String name) {
+        about = name;
+    }
+
     static void promise(int number) {
-        about = "promise " + number;
+        part("promise " + number);
     }
 
     /** The sentence, in the document's own words, that the checks behind this call are of. */
